@@ -9,7 +9,8 @@ public final class IronedFlat {
 
     private static final int THINGS = 6, BOARDS = 6, WASHES = 16, MAX_BULK = 99, MAX_CREASE = 9, MAX_WEIGHT = 9;
     private static final int COPPER = 1, COAT = 2, HAT = 3, LINEN = 4, FIELD = 5;
-    private static final int PRESS = 0, LEAVE = 1, FOLD = 2;
+    // What a thing's WILL may be; 1 is to leave, by which nothing is done.
+    private static final int PRESS = 0, FOLD = 2;
     private static final int FAT_BULK = 60;
 
     private static final int TAPE = 200, RULES = 8, OPEN = 3, REPORTS = 6, PLAN = 4, ROW_WIDTH = 3;
@@ -23,7 +24,7 @@ public final class IronedFlat {
     private final Laundry kept = new Laundry();
     private boolean anyKept = false;
     private final Load trial = new Load();
-    private final Search search = new Search(now);
+    private final Search search = new Search();
     private final RuleReader reader = new RuleReader();
     private final int[] rows = new int[PLAN * ROW_WIDTH];
     private int rowCount = 0;
@@ -67,11 +68,11 @@ public final class IronedFlat {
             case 2: return load.crease[k];
             case 3: return load.board[k];
             case 4: return load.isFlat(k) ? 1 : 0;
-            case 5: return now.swells(load, k);
+            case 5: return now.swells(load, k, now.sighNow(load));
             case 6: return needing(load.kind[k], load.bulk[k], load.crease[k]);
-            case 7: return now.pays(load, k, now.steamAt(load.wash));
-            case 8: return now.mayBePressed(load, k) ? 1 : 0;
-            case 9: return now.will(load, k);
+            case 7: return now.pays(load, k, now.steamNow(load));
+            case 8: return now.mayBePressed(load, k, now.steamNow(load)) ? 1 : 0;
+            case 9: return now.will(load, k, now.steamNow(load));
             default: return BAD;
         }
     }
@@ -312,7 +313,7 @@ public final class IronedFlat {
         if (!within(n, 0, PLAN)) {
             return BAD;
         }
-        search.tryAll(n, 0);
+        search.tryAll(now, n, 0);
         return search.most;
     }
 
@@ -320,7 +321,7 @@ public final class IronedFlat {
         if (!within(n, 0, PLAN) || !within(i, 0, PLAN - 1)) {
             return BAD;
         }
-        search.tryAll(n, 0);
+        search.tryAll(now, n, 0);
         return i < search.length ? search.first[i] : NONE;
     }
 
@@ -328,7 +329,7 @@ public final class IronedFlat {
         if (!within(n, 0, PLAN)) {
             return BAD;
         }
-        search.tryAll(n, 0);
+        search.tryAll(now, n, 0);
         return search.bestPlans;
     }
 
@@ -336,7 +337,7 @@ public final class IronedFlat {
         if (!within(n, 0, PLAN) || !isSetOfThings(things)) {
             return BAD;
         }
-        search.tryAll(n, things);
+        search.tryAll(now, n, things);
         return search.fewest;
     }
 
@@ -344,7 +345,7 @@ public final class IronedFlat {
         if (!within(n, 0, PLAN) || !isSetOfThings(things)) {
             return BAD;
         }
-        search.tryAll(n, things);
+        search.tryAll(now, n, things);
         int barred = things & ~search.everFlat;
         return barred == 0 ? NONE : Integer.numberOfTrailingZeros(barred);
     }
@@ -355,7 +356,7 @@ public final class IronedFlat {
         if (!within(n, 1, PLAN)) {
             return BAD;
         }
-        return search.gameOf(n);
+        return search.gameOf(now, n);
     }
 
     public int play(int n) {
@@ -365,7 +366,7 @@ public final class IronedFlat {
         if (now.isOver(now.load)) {
             return NONE;
         }
-        search.gameOf(n);
+        search.gameOf(now, n);
         return search.opening;
     }
 
@@ -454,7 +455,7 @@ public final class IronedFlat {
         if (!within(n, 0, PLAN)) {
             return BAD;
         }
-        search.tryAll(n, 0);
+        search.tryAll(now, n, 0);
         trial.copy(now.load);
         rowCount = search.length;
         for (int i = 0; i < rowCount; i++) {
@@ -775,6 +776,16 @@ public final class IronedFlat {
             flat = is ? flat | 1 << k : flat & ~(1 << k);
         }
 
+        void lieFlat(int k) {
+            setFlat(k, true);
+            bulk[k] = 0;
+        }
+
+        void fold(int k) {
+            crease[k] = Math.min(MAX_CREASE, crease[k] + 1);
+            bulk[k] = Math.max(0, bulk[k] - 6);
+        }
+
         int bulkOfAll() {
             int sum = 0;
             for (int k = 0; k < count; k++) {
@@ -873,19 +884,19 @@ public final class IronedFlat {
         }
 
         int ironAt(int wash) {
-            return within(wash, 0, WASHES - 1) ? iron[wash] : 0;
+            return wash >= 0 && wash < WASHES ? iron[wash] : 0;
         }
 
-        int steamAt(int wash) {
-            return ironAt(wash) / 4;
+        int steamNow(Load l) {
+            return ironAt(l.wash) / 4;
         }
 
-        int sighAt(int wash) {
-            return ironAt(wash) % 4;
+        int sighNow(Load l) {
+            return ironAt(l.wash) % 4;
         }
 
-        int swells(Load l, int k) {
-            int loose = swelling(l.kind[k], k, sighAt(l.wash), l.wash);
+        int swells(Load l, int k, int sigh) {
+            int loose = swelling(l.kind[k], k, sigh, l.wash);
             return Math.max(0, loose - rope[l.board[k]] / 3);
         }
 
@@ -898,23 +909,24 @@ public final class IronedFlat {
             return press >= needing(l.kind[k], l.bulk[k], l.crease[k]) ? 4 + l.bulk[k] / 12 : 0;
         }
 
-        int will(Load l, int k) {
+        int will(Load l, int k, int steam) {
             for (int i = 0; i < ruleCount; i++) {
                 Rule rule = rules[i];
-                if (rule != null && isOrIsUnder(l.kind[k], rule.kind) && rule.holds(l, k, steamAt(l.wash))) {
+                if (rule != null && isOrIsUnder(l.kind[k], rule.kind) && rule.holds(l, k, steam)) {
                     return rule.will;
                 }
             }
             return PRESS;
         }
 
-        boolean mayBePressed(Load l, int k) {
-            return pays(l, k, steamAt(l.wash)) > 0 && will(l, k) == PRESS;
+        boolean mayBePressed(Load l, int k, int steam) {
+            return pays(l, k, steam) > 0 && will(l, k, steam) == PRESS;
         }
 
         int actOfRest(Load l) {
+            int steam = steamNow(l);
             for (int k = 0; k < l.count; k++) {
-                if (mayBePressed(l, k)) {
+                if (mayBePressed(l, k, steam)) {
                     return k + 1;
                 }
             }
@@ -930,13 +942,14 @@ public final class IronedFlat {
         }
 
         int goBy(Load l, int told) {
-            int worth = within(told, 1, l.count) ? doWill(l, told - 1) : 0;
-            if (sighAt(l.wash) == 3) {
+            int sigh = sighNow(l);
+            int worth = told >= 1 && told <= l.count ? doWill(l, told - 1) : 0;
+            if (sigh == 3) {
                 l.undoLastFlat();
             }
             worth += Integer.bitCount(l.flat);
             for (int k = 0; k < l.count; k++) {
-                l.bulk[k] = l.isFlat(k) ? 0 : Math.min(MAX_BULK, l.bulk[k] + swells(l, k));
+                l.bulk[k] = l.isFlat(k) ? 0 : Math.min(MAX_BULK, l.bulk[k] + swells(l, k, sigh));
             }
             l.wash++;
             return worth;
@@ -946,27 +959,21 @@ public final class IronedFlat {
             if (l.isFlat(k)) {
                 return 0;
             }
-            switch (will(l, k)) {
-                case PRESS: return pressOne(l, k);
-                case FOLD: return foldOne(l, k);
-                default: return 0;
+            int steam = steamNow(l);
+            switch (will(l, k, steam)) {
+                case PRESS:
+                    int worth = pays(l, k, steam);
+                    if (worth > 0) {
+                        l.lieFlat(k);
+                    }
+                    return worth;
+                case FOLD:
+                    l.fold(k);
+                    // 'if SIGH is 0' is read as of the WORTH alone, beside which it stands.
+                    return sighNow(l) == 0 ? 1 : 0;
+                default:
+                    return 0;
             }
-        }
-
-        private int pressOne(Load l, int k) {
-            int worth = pays(l, k, steamAt(l.wash));
-            if (worth > 0) {
-                l.setFlat(k, true);
-                l.bulk[k] = 0;
-            }
-            return worth;
-        }
-
-        // The document's 'if SIGH is 0' is read as of the WORTH alone, by which it stands.
-        private int foldOne(Load l, int k) {
-            l.crease[k] = Math.min(MAX_CREASE, l.crease[k] + 1);
-            l.bulk[k] = Math.max(0, l.bulk[k] - 6);
-            return sighAt(l.wash) == 0 ? 1 : 0;
         }
     }
 
@@ -1026,20 +1033,22 @@ public final class IronedFlat {
         }
     }
 
-    /** The tape, and the rules read from it. What can't be read stands where the reader stopped. */
+    /** The tape, and the rules read from it. What can't stand is where the reader stopped. */
     private static final class RuleReader {
-        private static final String KINDS = "thing copper coat hat linen field";
-        private static final String DOINGS = "press leave fold";
-        private static final String FACTS = "wash bulk crease steam number";
+        private static final String WORDS = "thing copper coat hat linen field press leave fold wash bulk crease steam number if or and not";
+        // Places of words in WORDS; first and last of those that stand for one another.
+        private static final int FIRST_KIND = 0, LAST_KIND = 5, FIRST_DOING = 6, LAST_DOING = 8, FIRST_FACT = 9, LAST_FACT = 13;
+        private static final int IF = 14, OR = 15, AND = 16, NOT = 17, NO_WORD = -1;
         private static final int AT_END = 0, NAME = 1, NUMBER = 2, OTHER = 3;
 
         private final int[] tape = new int[TAPE];
         int size = 0;
-        private int fed = 0;
         private int start = 0;
         private int stop = 0;
         private int sort = AT_END;
-        private final int[] steps = new int[TAPE * Rule.STEP];
+        private int word = NO_WORD;
+        // A step takes two bytes of the tape at least.
+        private final int[] steps = new int[TAPE / 2 * Rule.STEP];
         private int stepsUsed = 0;
         final Rule[] made = new Rule[RULES];
         int count = 0;
@@ -1048,7 +1057,7 @@ public final class IronedFlat {
             if (size + n > TAPE) {
                 return FULL;
             }
-            for (int i = 0; i < n && i < 8; i++) {
+            for (int i = 0; i < n; i++) {
                 tape[size] = (int) (eight >>> 8 * i & 255);
                 size++;
             }
@@ -1058,7 +1067,6 @@ public final class IronedFlat {
         void begin() {
             count = 0;
             stop = 0;
-            fed = size;
             goOn();
         }
 
@@ -1077,43 +1085,72 @@ public final class IronedFlat {
         /** Goes to the next name, number or other byte. */
         private void goOn() {
             start = stop;
-            while (start < fed && tape[start] == ' ') {
+            while (start < size && tape[start] == ' ') {
                 start++;
             }
-            stop = start;
-            sort = start < fed ? sortOf(tape[start]) : AT_END;
-            if (sort == OTHER) {
+            sort = sortAt(start);
+            stop = sort == AT_END ? start : start + 1;
+            while (sort != OTHER && stop < size && sortAt(stop) == sort) {
                 stop++;
             }
-            while ((sort == NAME || sort == NUMBER) && stop < fed && sortOf(tape[stop]) == sort) {
-                stop++;
-            }
+            word = sort == NAME ? placeInWords() : NO_WORD;
         }
 
-        private static int sortOf(int sign) {
-            if (sign >= 'a' && sign <= 'z') {
+        private int sortAt(int i) {
+            if (i < 0 || i >= size) {
+                return AT_END;
+            }
+            if (tape[i] >= 'a' && tape[i] <= 'z') {
                 return NAME;
             }
-            return sign >= '0' && sign <= '9' ? NUMBER : OTHER;
+            return tape[i] >= '0' && tape[i] <= '9' ? NUMBER : OTHER;
+        }
+
+        private int placeInWords() {
+            int place = 0;
+            int same = 0;
+            for (int i = 0; i <= WORDS.length(); i++) {
+                if (i == WORDS.length() || WORDS.charAt(i) == ' ') {
+                    if (same == stop - start) {
+                        return place;
+                    }
+                    place++;
+                    same = 0;
+                } else if (same >= 0 && start + same < stop && tape[start + same] == WORDS.charAt(i)) {
+                    same++;
+                } else {
+                    // Below 0 till the word ends: it is another one.
+                    same = -1;
+                }
+            }
+            return NO_WORD;
+        }
+
+        private boolean isWord(int first, int last) {
+            return word >= first && word <= last;
+        }
+
+        private boolean isSign(char sign) {
+            return sort == OTHER && tape[start] == sign;
         }
 
         boolean readRule() {
-            int kind = placeAmong(KINDS);
-            if (kind < 0 || count >= RULES) {
+            if (!isWord(FIRST_KIND, LAST_KIND) || count >= RULES) {
                 return false;
             }
+            int kind = word - FIRST_KIND;
             goOn();
             stepsUsed = 0;
-            if (placeAmong("if") == 0) {
+            if (word == IF) {
                 goOn();
                 if (!readCondition(0)) {
                     return false;
                 }
             }
-            int will = placeAmong(DOINGS);
-            if (will < 0) {
+            if (!isWord(FIRST_DOING, LAST_DOING)) {
                 return false;
             }
+            int will = word - FIRST_DOING;
             goOn();
             if (!isSign(';')) {
                 return false;
@@ -1125,41 +1162,33 @@ public final class IronedFlat {
         }
 
         private boolean readCondition(int open) {
-            if (!readAllOf(open)) {
-                return false;
-            }
-            for (int i = 0; i < TAPE && placeAmong("or") == 0; i++) {
+            boolean read = readAllOf(open);
+            for (int i = 0; i < TAPE && read && word == OR; i++) {
                 goOn();
-                if (!readAllOf(open)) {
-                    return false;
-                }
+                read = readAllOf(open);
                 addStep(Rule.OR, 0, 0);
             }
-            return true;
+            return read;
         }
 
         private boolean readAllOf(int open) {
-            if (!readOne(open)) {
-                return false;
-            }
-            for (int i = 0; i < TAPE && placeAmong("and") == 0; i++) {
+            boolean read = readOne(open);
+            for (int i = 0; i < TAPE && read && word == AND; i++) {
                 goOn();
-                if (!readOne(open)) {
-                    return false;
-                }
+                read = readOne(open);
                 addStep(Rule.AND, 0, 0);
             }
-            return true;
+            return read;
         }
 
         private boolean readOne(int open) {
             boolean denied = false;
-            for (int i = 0; i < TAPE && placeAmong("not") == 0; i++) {
+            for (int i = 0; i < TAPE && word == NOT; i++) {
                 denied = !denied;
                 goOn();
             }
             boolean read = isSign('(') ? readInner(open) : readComparison();
-            if (read && denied) {
+            if (denied) {
                 addStep(Rule.NOT, 0, 0);
             }
             return read;
@@ -1178,37 +1207,36 @@ public final class IronedFlat {
         }
 
         private boolean readComparison() {
-            int left = readValue();
+            int left = valueHere();
             if (left < 0) {
                 return false;
             }
+            goOn();
             int sign = isSign('<') ? Rule.LESS : isSign('=') ? Rule.EQUAL : isSign('>') ? Rule.MORE : -1;
             if (sign < 0) {
                 return false;
             }
             goOn();
-            int right = readValue();
+            int right = valueHere();
             if (right < 0) {
                 return false;
             }
+            goOn();
             addStep(sign, left, right);
             return true;
         }
 
         /** A number as itself, a fact from FACT on; below 0 if there is neither. */
-        private int readValue() {
-            int value = -1;
-            if (sort == NUMBER && stop - start <= 4) {
-                value = 0;
-                for (int i = start; i < stop; i++) {
-                    value = value * 10 + tape[i] - '0';
-                }
-            } else {
-                int fact = placeAmong(FACTS);
-                value = fact < 0 ? -1 : Rule.FACT + fact;
+        private int valueHere() {
+            if (isWord(FIRST_FACT, LAST_FACT)) {
+                return Rule.FACT + word - FIRST_FACT;
             }
-            if (value >= 0) {
-                goOn();
+            if (sort != NUMBER || stop - start > 4) {
+                return -1;
+            }
+            int value = 0;
+            for (int i = start; i < stop; i++) {
+                value = value * 10 + tape[i] - '0';
             }
             return value;
         }
@@ -1221,46 +1249,11 @@ public final class IronedFlat {
                 stepsUsed += Rule.STEP;
             }
         }
-
-        private boolean isSign(char sign) {
-            return sort == OTHER && start < fed && tape[start] == sign;
-        }
-
-        /** Which of the words, parted by blanks, the name is; -1 if none of them. */
-        private int placeAmong(String words) {
-            if (sort != NAME) {
-                return -1;
-            }
-            int word = 0;
-            int from = 0;
-            for (int i = 0; i <= words.length(); i++) {
-                if (i == words.length() || words.charAt(i) == ' ') {
-                    if (isNameIn(words, from, i)) {
-                        return word;
-                    }
-                    word++;
-                    from = i + 1;
-                }
-            }
-            return -1;
-        }
-
-        private boolean isNameIn(String words, int from, int to) {
-            if (stop - start != to - from) {
-                return false;
-            }
-            for (int i = 0; i < to - from; i++) {
-                if (words.charAt(from + i) != tape[start + i]) {
-                    return false;
-                }
-            }
-            return true;
-        }
     }
 
-    /** Goes through all plans, and all games, from how it is now. */
+    /** Goes through all plans, and all games, of a laundry as it is. */
     private static final class Search {
-        private final Laundry laundry;
+        // By how many washes of the plan have gone by: how it is behind them.
         private final Load[] behind = new Load[PLAN + 1];
         private final int[] acts = new int[PLAN];
         private int wanted = 0;
@@ -1272,29 +1265,28 @@ public final class IronedFlat {
         int everFlat = 0;
         int opening = 0;
 
-        Search(Laundry laundry) {
-            this.laundry = laundry;
+        Search() {
             for (int i = 0; i < behind.length; i++) {
                 behind[i] = new Load();
             }
         }
 
-        private void begin(int n) {
+        private void begin(Laundry laundry, int n) {
             behind[0].copy(laundry.load);
             length = Math.max(0, Math.min(Math.min(n, PLAN), laundry.end - laundry.load.wash));
         }
 
-        void tryAll(int n, int things) {
-            begin(n);
+        void tryAll(Laundry laundry, int n, int things) {
+            begin(laundry, n);
             wanted = things;
             most = -1;
             bestPlans = 0;
             fewest = NONE;
             everFlat = 0;
-            tryFrom(0, 0, 0);
+            tryFrom(laundry, 0, 0, 0);
         }
 
-        private void tryFrom(int depth, int worth, int told) {
+        private void tryFrom(Laundry laundry, int depth, int worth, int told) {
             if (depth >= length) {
                 weigh(worth, told);
                 return;
@@ -1305,7 +1297,7 @@ public final class IronedFlat {
                 next.copy(ahead);
                 acts[depth] = act;
                 int more = laundry.goBy(next, act);
-                tryFrom(depth + 1, worth + more, act == 0 ? told : told + 1);
+                tryFrom(laundry, depth + 1, worth + more, act == 0 ? told : told + 1);
             }
         }
 
@@ -1326,25 +1318,26 @@ public final class IronedFlat {
             }
         }
 
-        int gameOf(int n) {
-            begin(n);
+        int gameOf(Laundry laundry, int n) {
+            begin(laundry, n);
             opening = 0;
-            return valueFrom(0);
+            return valueFrom(laundry, 0);
         }
 
-        private int valueFrom(int depth) {
+        private int valueFrom(Laundry laundry, int depth) {
             if (depth >= length) {
                 return 0;
             }
             Load ahead = behind[depth];
             Load next = behind[depth + 1];
+            boolean wantsMuch = depth % 2 == 0;
             int value = 0;
             for (int act = 0; act <= ahead.count; act++) {
                 next.copy(ahead);
-                int here = laundry.goBy(next, act);
-                here += valueFrom(depth + 1);
-                if (act == 0 || (depth % 2 == 0 ? here > value : here < value)) {
-                    value = here;
+                int worth = laundry.goBy(next, act);
+                worth += valueFrom(laundry, depth + 1);
+                if (act == 0 || (wantsMuch ? worth > value : worth < value)) {
+                    value = worth;
                     if (depth == 0) {
                         opening = act;
                     }
@@ -1465,8 +1458,21 @@ public final class IronedFlat {
         }
     }
 
-    /** A thing of its kind that acts: each kind's own bodies, and those above it where it has none. */
+    /** A thing of its kind that acts; a body runs others, those of its own kind or those above it. */
     private static final class Actor {
+        private static final int FOLDS = 0, AIRS = 1, SHARES = 2, ACTS = 4;
+        // By KIND, then by act: the body that a thing of that KIND has, its own or the nearest above it.
+        private static final int[] BODY = {
+            10, 11, 12, 13,
+            20, 11, 12, 13,
+            10, 30, 12, 13,
+            50, 30, 12, 51,
+            10, 11, 40, 13,
+            10, 60, 61, 13,
+        };
+        // Far above what the bodies need: 51, 13, 30, 11, 50, 10 is the longest chain.
+        private static final int DEEPEST = 20;
+
         final int[] bodies = new int[BODIES];
         int ran = 0;
         private int kind = 0;
@@ -1482,118 +1488,51 @@ public final class IronedFlat {
             this.kind = kind;
             this.number = number;
             this.board = board;
-            parted = false;
         }
 
         int doAct(int which, int x) {
-            int answer;
-            switch (which) {
-                case 0: answer = folds(x); break;
-                case 1: answer = airs(x); break;
-                case 2: answer = shares(x); break;
-                default: answer = stores(x); break;
-            }
+            parted = false;
+            int answer = run(bodyOf(which), x, 0);
             return parted ? PARTED_BY_ZERO : answer;
         }
 
-        // Once something was parted by 0 no body begins any more, though the callers still end.
-        private void start(int body) {
-            if (!parted && ran < bodies.length) {
+        private int bodyOf(int which) {
+            int i = kind * ACTS + which;
+            return within(i, 0, BODY.length - 1) ? BODY[i] : 0;
+        }
+
+        // Once something was parted by 0 no body begins any more.
+        private int run(int body, int x, int depth) {
+            if (parted || depth > DEEPEST) {
+                return 0;
+            }
+            if (ran < bodies.length) {
                 bodies[ran] = body;
                 ran++;
             }
-        }
-
-        private int folds(int x) {
-            switch (kind) {
-                case COPPER: return copperFolds(x);
-                case HAT: return hatFolds(x);
-                default: return thingFolds(x);
+            int d = depth + 1;
+            switch (body) {
+                case 10: return x * 6 - 2 * number;
+                case 11: return run(bodyOf(FOLDS), x, d) + 7 * board;
+                case 12: return part(x, number - board + 2);
+                case 13: return run(bodyOf(AIRS), x, d) - run(bodyOf(SHARES), x, d);
+                case 20: return run(10, x, d) ^ 23;
+                case 30: return run(11, x, d) * 2;
+                case 40: return run(12, x, d) + 8;
+                case 50: return run(10, x + 9, d);
+                case 51: return run(13, x, d) - run(bodyOf(AIRS), board, d);
+                case 60: return 0 - run(11, x, d);
+                case 61: return run(40, x, d) ^ run(bodyOf(FOLDS), number, d);
+                default: return 0;
             }
         }
 
-        private int airs(int x) {
-            switch (kind) {
-                case COAT:
-                case HAT: return coatAirs(x);
-                case FIELD: return fieldAirs(x);
-                default: return thingAirs(x);
-            }
-        }
-
-        private int shares(int x) {
-            switch (kind) {
-                case LINEN: return linenShares(x);
-                case FIELD: return fieldShares(x);
-                default: return thingShares(x);
-            }
-        }
-
-        private int stores(int x) {
-            return kind == HAT ? hatStores(x) : thingStores(x);
-        }
-
-        private int thingFolds(int x) {
-            start(10);
-            return x * 6 - 2 * number;
-        }
-
-        private int thingAirs(int x) {
-            start(11);
-            return folds(x) + 7 * board;
-        }
-
-        private int thingShares(int x) {
-            start(12);
-            int parts = number - board + 2;
+        private int part(int x, int parts) {
             if (parts == 0) {
                 parted = true;
                 return 0;
             }
             return x / parts;
-        }
-
-        private int thingStores(int x) {
-            start(13);
-            int aired = airs(x);
-            return aired - shares(x);
-        }
-
-        private int copperFolds(int x) {
-            start(20);
-            return thingFolds(x) ^ 23;
-        }
-
-        private int coatAirs(int x) {
-            start(30);
-            return thingAirs(x) * 2;
-        }
-
-        private int linenShares(int x) {
-            start(40);
-            return thingShares(x) + 8;
-        }
-
-        private int hatFolds(int x) {
-            start(50);
-            return thingFolds(x + 9);
-        }
-
-        private int hatStores(int x) {
-            start(51);
-            int stored = thingStores(x);
-            return stored - airs(board);
-        }
-
-        private int fieldAirs(int x) {
-            start(60);
-            return 0 - thingAirs(x);
-        }
-
-        private int fieldShares(int x) {
-            start(61);
-            int shared = linenShares(x);
-            return shared ^ folds(number);
         }
     }
 }

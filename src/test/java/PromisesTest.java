@@ -109,6 +109,7 @@ public final class PromisesTest {
         due(3, "hat pays at STEAM 0, PRESS as much as it NEEDS", x.thingOf(2, 7), 7);
         due(3, "linen may not be pressed at STEAM 0", x.thingOf(3, 8), 0);
         x.change(2, 4, 1);
+        due(3, "FLAT", x.thingOf(2, 4), 1);
         due(3, "FLAT ones still swell when asked", x.thingOf(2, 5), 3);
         due(3, "FLAT ones pay nothing", x.thingOf(2, 7), 0);
         due(3, "FLAT ones may not be pressed", x.thingOf(2, 8), 0);
@@ -137,8 +138,11 @@ public final class PromisesTest {
         due(3, "hat swells by 0 at SIGH 0", h.thingOf(0, 5), 0);
         h.remake(0, 2);
         due(3, "coat swells by 2 at SIGH 0", h.thingOf(0, 5), 2);
-        h.board(0, 1, 9);
-        due(3, "but not below 0", h.thingOf(0, 5), 0);
+        int[] byRope = {2, 2, 2, 1, 1, 1, 0, 0, 0, 0};
+        for (int rope = 0; rope < 10; rope++) {
+            h.board(0, 1, rope);
+            due(3, "less a third of the ROPE, not below 0", h.thingOf(0, 5), byRope[rope]);
+        }
     }
 
     private static void changes() {
@@ -254,7 +258,7 @@ public final class PromisesTest {
             "thing press;coat leave;hat fold;linen press;field press;copper press;thing press;thing press;",
             "thing press;coat leave;hat fold;linen press;field press;copper press;thing press;thing press; thing",
             "thing press;coat leave;hat fold;linen press;field press;copper press;thing press;thing press; ;",
-            "Thing leave;", "thing leave; \n", "thing iron;", "thing if 1<>2 leave;", "thing if 1<2 < 3 leave;", "thing if () leave;",
+            "thingz leave;", "Thing leave;", "thing leave; \n", "thing iron;", "thing if 1<>2 leave;", "thing if 1<2 < 3 leave;", "thing if () leave;",
             "thing if and leave;", "wash leave;", "if 1=1 leave;", "thing if thing=1 leave;", "thing if 1=1 leave", "thing if 1=1 or", ";",
             "thing if wash<3 leave; hat if (bulk>9 and crease=1) or steam<2 and not number=0 fold;", "thing leave;" + (char) 0, "thing" + (char) 225 + "leave;",
         };
@@ -267,7 +271,7 @@ public final class PromisesTest {
             8,
             -194,
             -194,
-            -100, -113, -106, -111, -113, -110,
+            -100, -100, -113, -106, -111, -113, -110,
             -109, -100, -100, -109, -118, -115, -100,
             2, -112, -105,
         };
@@ -309,6 +313,11 @@ public final class PromisesTest {
             rules(x, (String) t[0]);
             for (int k = 0; k < 5; k++) due(13, "WILL of " + k + " by '" + t[0] + "'", x.thingOf(k, 9), ((String) t[1]).charAt(k) - '0');
         }
+        // As many comparisons as THE TAPE takes, the last of which tells.
+        String many = "thing if 0=1" + "or 0=1".repeat(29) + "or 1=1leave;";
+        due(13, "198 bytes", many.length(), 198);
+        due(13, "31 comparisons", rules(x, many), 1);
+        due(13, "the last one tells", x.thingOf(0, 9), 1);
         rules(x, "linen leave;");
         due(3, "PAYS is not by WILL", x.thingOf(3, 7), 7);
         due(3, "MAY is", x.thingOf(3, 8), 0);
@@ -368,14 +377,20 @@ public final class PromisesTest {
         IronedFlat x = with(2, 8, 8, 0);
         rules(x, "thing fold;");
         due(14, "THE REST tells none that folds", x.on(16), 0);
+        due(14, "nor does a WASH", x.wash(), 0);
+        due(14, "so its CREASE stays", x.thingOf(0, 2), 8);
+        x.anew();
+        x.change(0, 1, 8);
+        x.change(0, 2, 7);
         x.sheet(0, 0, 3);
         x.write(0, 0, 1);
         x.write(0, 1, 1);
         x.write(0, 2, 1);
         x.iron(0, 8);
         due(44, "a fold is WORTH 1 at SIGH 0", x.goAll(0, 0, 1), 1);
-        due(44, "CREASE is 1 more", x.thingOf(0, 2), 9);
+        due(44, "CREASE is 1 more", x.thingOf(0, 2), 8);
         due(44, "BULK 6 less, and 2 for the SIGH", x.thingOf(0, 1), 4);
+        x.change(0, 2, 9);
         due(44, "a fold is WORTH 0 at SIGH 1", x.goAll(0, 0, 1), 0);
         due(44, "CREASE is 9 at most", x.thingOf(0, 2), 9);
         due(44, "BULK is 0 at least, and 4 for the SIGH", x.thingOf(0, 1), 4);
@@ -450,6 +465,11 @@ public final class PromisesTest {
         // CREASE 0 leaves always, 1 and 2 in WASH 0; 1 NEEDS (15 + 1) / 2 and 0 at STEAM 1 else: PRESS 4.
         // WASH 1: BULK 96: (16 + 1) / 2 = 8 is PRESS: 4 + 8, and 1 FLAT.
         due(17, "CREASE 1 is the least that is pressed", y.creaseFor(5), 1);
+        rules(y, "field if crease < 9 leave;");
+        y.iron(1, 15);
+        y.change(5, 1, 6);
+        // CREASE 9 NEEDS (1 + 9) / 2 + 4, in WASH 1 (BULK 11) the same: PRESS 12.
+        due(17, "CREASE 9 alone is pressed", y.creaseFor(5), 9);
     }
 
     private static void fatLeastLeft() {
@@ -526,6 +546,7 @@ public final class PromisesTest {
         due(24, "1 and then 2: 6 + 8", x.ith(2, 0), 1);
         due(24, "then", x.ith(2, 1), 2);
         due(24, "of three: none is told", x.ith(3, 2), 0);
+        due(24, "of four: none is told", x.ith(4, 3), 0);
         due(24, "not so many", x.ith(2, 2), NONE);
         due(24, "not so many", x.ith(0, 0), NONE);
         refused(24, BAD, x, new int[] {-1, 5, LOW, HIGH}, v -> x.ith(v, 0));
@@ -551,6 +572,7 @@ public final class PromisesTest {
         due(27, "each by itself", x.bars(1, 3), NONE);
         due(27, "none", x.bars(4, 0), NONE);
         due(27, "of no WASH: the least", x.bars(0, 6), 1);
+        due(27, "of no WASH: the least", x.bars(0, 7), 0);
         refused(27, BAD, x, new int[] {-1, 5, LOW, HIGH}, v -> x.bars(v, 1));
         refused(27, BAD, x, new int[] {-1, 8, LOW, HIGH}, v -> x.bars(2, v));
 
@@ -592,6 +614,7 @@ public final class PromisesTest {
         due(29, "BAD goes ahead", x.play(0), BAD);
         // The other one folds or leaves where it hurts: one who folds at SIGH 0 is WORTH 1, so it tells none.
         IronedFlat y = with(2, 0, 0, 0);
+        due(29, "played without the VALUE being asked", y.play(4), 1);
         rules(y, "thing fold;");
         for (int w = 0; w < 12; w++) y.iron(w, 0);
         due(28, "1, 0, 1, 0", y.game(4), 2);
@@ -624,6 +647,7 @@ public final class PromisesTest {
         due(32, "CREASE", x.lone(2), 1);
         due(30, "the fourth", x.report(1, 1, 1, 1), 3);
         due(32, "in the WASHES behind, not the one that comes", x.lone(0), 1);
+        due(33, "the only one that FITS", x.liar(), NONE);
         due(30, "the fifth", x.report(0, 1, 1, 16), 4);
         due(32, "none", x.lone(0), 0);
         for (int what = 1; what < 4; what++) due(32, "none", x.lone(what), NONE);
@@ -653,6 +677,14 @@ public final class PromisesTest {
         x.report(15, 1, 16, 16);
         due(32, "never 16 of 15", x.lone(0), 0);
         due(33, "but for it all FIT", x.liar(), 0);
+        x.forget();
+        // What a field swells by is 0, 1, 2, 0, ..: its number is 0; so is linen's.
+        x.report(15, 0, 15, 15);
+        x.report(0, 0, 0, 0);
+        due(32, "linen and fields have 15 behind 15 WASHES", x.lone(0), 20);
+        due(32, "linen is less", x.lone(1), 4);
+        x.report(0, 0, 81, 81);
+        due(33, "BULK 81 at first is one that FITS nothing else", x.liar(), 2);
     }
 
     private static void lots() {
@@ -697,6 +729,10 @@ public final class PromisesTest {
         IronedFlat x = with(2, 12, 0, 0, 2, 24, 0, 0, 1, 0, 0, 1);
         due(38, "none yet", x.row(0, 0), -9);
         due(40, "none yet", x.judge(), 0);
+        due(37, "four", x.prove(4), 4);
+        due(38, "the fourth", x.row(3, 1), 2);
+        due(37, "none", x.prove(0), 0);
+        x.on(16);
         due(37, "how many", x.prove(3), 3);
         due(50, "how many", x.many(4), 3);
         int[][] rows = {{1, 6, 1}, {2, 8, 3}, {0, 2, 3}};
@@ -764,6 +800,9 @@ public final class PromisesTest {
         refused(42, BAD, x, new int[] {-1, 4, LOW, HIGH}, v -> x.write(v, 0, 1));
         refused(43, BAD, x, new int[] {-1, 4, LOW, HIGH}, v -> x.item(v, 0, 0));
         refused(43, BAD, x, new int[] {-1, 5, LOW, HIGH}, v -> x.item(1, v, 0));
+        x.sheet(3, 1, 2);
+        x.write(3, 1, 5);
+        due(43, "the last SHEET", x.item(3, 1, 1), 5);
         x.sheet(2, 0, 0);
         due(42, "none in it", x.write(2, 0, 1), -12);
     }
@@ -789,6 +828,7 @@ public final class PromisesTest {
         refused(45, -12, x, new int[] {2, 20}, v -> x.wouldBe(0, 4, v));
         due(45, "none of them", x.wouldBe(0, 99, 0), 0);
         due(45, "one", x.wouldBe(0, 2, 1), 7);
+        due(45, "none is told", x.wouldBe(0, 0, 1), 0);
         String before = look(x);
         x.wouldBe(0, 4, 1);
         due(45, "nothing is changed", look(x).equals(before) ? 1 : 0, 1);
@@ -936,7 +976,7 @@ public final class PromisesTest {
     private static void manyAndKept() {
         IronedFlat x = with(2, 12, 0, 0, 2, 24, 0, 0);
         rules(x, "hat leave; coat press;");
-        x.report(1, 0, 0, 9);
+        x.report(1, 1, 1, 9);
         feed(x, "hat");
         x.prove(2);
         x.wash();
@@ -966,8 +1006,8 @@ public final class PromisesTest {
         x.change(1, 3, 4);
         rules(x, " if");
         x.forget();
-        x.report(2, 0, 0, 0);
-        x.report(2, 0, 0, 0);
+        x.report(2, 0, 0, 20);
+        x.report(2, 0, 0, 20);
         feed(x, "coat leave;");
         x.rules();
         feed(x, "hat");
@@ -998,7 +1038,7 @@ public final class PromisesTest {
 
     private static int lonesOfOne() {
         IronedFlat x = new IronedFlat();
-        x.report(1, 0, 0, 9);
+        x.report(1, 1, 1, 9);
         return x.lone(0);
     }
 

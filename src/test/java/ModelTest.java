@@ -778,11 +778,14 @@ public final class ModelTest {
 
     // ---- runs by chance
 
+    // How many calls a look takes at most, and a step other than a text being fed.
+    private static final int LOOK = 74, STEP = 16;
     private final Random chance;
     private final IronedFlat real = new IronedFlat();
     private final Model model = new Model();
     private final StringBuilder told = new StringBuilder();
     private int wrong = 0;
+    private int calls = 0;
 
     private ModelTest(long seed) {
         chance = new Random(seed);
@@ -802,6 +805,7 @@ public final class ModelTest {
     private int aThing() { return in(0, Math.max(0, model.l.things.size() - 1)); }
 
     private void same(String call, int got, int due) {
+        calls++;
         told.append(call).append(" -> ").append(due).append('\n');
         if (got != due) {
             wrong++;
@@ -811,7 +815,7 @@ public final class ModelTest {
 
     private void feedText(byte[] text) {
         int n;
-        for (int i = 0; i < text.length; i += n) {
+        for (int i = 0; i < text.length && callsLeft() > LOOK + 2; i += n) {
             n = Math.min(text.length - i, 1 + chance.nextInt(8));
             long eight = chance.nextLong();
             for (int j = 0; j < n; j++) eight = eight & ~(255L << 8 * j) | (text[i + j] & 255L) << 8 * j;
@@ -939,29 +943,34 @@ public final class ModelTest {
         }
     }
 
-    // All that can be looked at, so that a wrong change shows at once.
+    // All of the laundry that can be looked at, so that a wrong change shows soon.
     private void look() {
         for (int i = 0; i < 7; i++) same("state(" + i + ")", real.state(i), model.state(i));
         for (int i = 0; i < 7; i++) same("many(" + i + ")", real.many(i), model.many(i));
         for (int k = 0; k < model.l.things.size(); k++) for (int w = 0; w < 10; w++) same("thingOf(" + k + ", " + w + ")", real.thingOf(k, w), model.thingOf(k, w));
     }
 
-    private int go(int calls) {
+    // What is answered behind the 512th call is free, so a run ends ahead of it.
+    private int callsLeft() { return 512 - calls; }
+
+    private int go() {
         setUp();
-        for (int i = 0; i < calls && wrong == 0; i++) {
+        for (int i = 1; callsLeft() > LOOK + STEP && wrong == 0; i++) {
             if (model.l.over() && chance.nextInt(3) == 0) call(8);
             call(chance.nextInt(4) == 0 ? 36 + chance.nextInt(13) : chance.nextInt(51));
-            look();
+            if (i % 40 == 0 && callsLeft() > 2 * LOOK) look();
         }
+        look();
+        if (callsLeft() < 0) throw new IllegalStateException("a run of " + calls + " calls");
         return wrong;
     }
 
     public static void main(String[] args) {
-        int runs = args.length > 0 ? Integer.parseInt(args[0]) : 400;
+        int runs = args.length > 0 ? Integer.parseInt(args[0]) : 1500;
         int from = args.length > 1 ? Integer.parseInt(args[1]) : 1;
         for (int seed = from; seed < from + runs; seed++) {
             ModelTest test = new ModelTest(seed);
-            if (test.go(120) != 0) {
+            if (test.go() != 0) {
                 System.out.println("in the run of seed " + seed + "; all calls of it:");
                 System.out.println(test.told);
                 System.exit(1);

@@ -1,61 +1,19 @@
-import java.util.function.ToIntFunction;
+import java.util.function.IntUnaryOperator;
 
 /** The promises 1 to 52, one by one: what is told, the edges, and what is refused. Answers are worked out by hand. */
-public final class PromisesTest {
-    private static final int BAD = -1, FULL = -2, NONE = -3, STATE = -4;
-    private static final int LOW = Integer.MIN_VALUE, HIGH = Integer.MAX_VALUE;
-    private static int wrong = 0;
-    private static int asked = 0;
-
+public final class PromisesTest extends Told {
     private static void due(int promise, String what, int got, int want) {
-        asked++;
-        if (got != want) {
-            wrong++;
-            System.out.println("promise " + promise + ": " + what + " answered " + got + ", due is " + want);
-        }
+        heads("promise " + promise);
+        due(what, got, want);
     }
 
-    /** Each of these is refused, and leaves what can be looked at as it was. */
-    private static void refused(int promise, int want, IronedFlat x, int[] args, ToIntFunction<Integer> call) {
-        String before = look(x);
-        for (int v : args) due(promise, "with " + v, call.applyAsInt(v), want);
-        if (!look(x).equals(before)) due(promise, "a refused call changed something", 1, 0);
-    }
-
-    private static String look(IronedFlat x) {
-        StringBuilder b = new StringBuilder();
-        for (int i = 0; i < 7; i++) b.append(x.state(i)).append(' ').append(x.many(i)).append(' ');
-        for (int k = 0; k < 6; k++) for (int w = 0; w < 10; w++) b.append(x.thingOf(k, w)).append(' ');
-        for (int f = 0; f < 6; f++) b.append(x.boardOf(f, 0)).append(' ').append(x.boardOf(f, 1)).append(' ');
-        int z = x.seed(0);
-        x.seed(z);
-        return b.append(z).toString();
-    }
-
-    private static int feed(IronedFlat x, String text) {
-        int has = 0;
-        for (int i = 0; i < text.length(); i += 8) {
-            long eight = 0;
-            int n = Math.min(8, text.length() - i);
-            for (int j = 0; j < n; j++) eight |= (text.charAt(i + j) & 255L) << 8 * j;
-            has = x.feed(eight, n);
-        }
-        return has;
-    }
-
-    private static int rules(IronedFlat x, String text) {
-        feed(x, text);
-        return x.rules();
-    }
-
-    private static IronedFlat with(int... fours) {
-        IronedFlat x = new IronedFlat();
-        for (int i = 0; i + 3 < fours.length; i += 4) x.thing(fours[i], fours[i + 1], fours[i + 2], fours[i + 3]);
-        return x;
+    private static void refused(int promise, int want, Counted x, int[] args, IntUnaryOperator call) {
+        heads("promise " + promise);
+        refused(want, x, args, call);
     }
 
     private static void newObject() {
-        IronedFlat x = new IronedFlat();
+        Counted x = new Counted();
         for (int i = 0; i < 7; i++) due(1, "many(" + i + ")", x.many(i), 0);
         due(1, "WASH", x.state(0), 0);
         due(1, "END", x.state(1), 12);
@@ -72,7 +30,7 @@ public final class PromisesTest {
     }
 
     private static void things() {
-        IronedFlat x = new IronedFlat();
+        Counted x = new Counted();
         refused(2, BAD, x, new int[] {0, 6, LOW, HIGH}, v -> x.thing(v, 0, 0, 0));
         refused(2, BAD, x, new int[] {-1, 100, LOW, HIGH}, v -> x.thing(1, v, 0, 0));
         refused(2, BAD, x, new int[] {-1, 10, LOW, HIGH}, v -> x.thing(1, 0, v, 0));
@@ -87,7 +45,7 @@ public final class PromisesTest {
 
     private static void thingsTold() {
         // Boards: 0 plain; 1 with WEIGHT 7, ROPE 8 (2 are taken of what swells). IRON 9: STEAM 2, SIGH 1.
-        IronedFlat x = with(1, 50, 4, 1, 2, 37, 3, 1, 3, 37, 3, 1, 4, 40, 5, 0, 5, 40, 5, 0);
+        Counted x = with(1, 50, 4, 1, 2, 37, 3, 1, 3, 37, 3, 1, 4, 40, 5, 0, 5, 40, 5, 0);
         x.board(1, 0, 7);
         x.board(1, 1, 8);
         int[][] told = {
@@ -118,7 +76,7 @@ public final class PromisesTest {
         x.board(1, 0, 6);
         due(3, "12 doesn't", x.thingOf(1, 7), 0);
 
-        IronedFlat c = with(1, 0, 0, 0, 4, 0, 0, 0, 4, 0, 0, 0, 4, 0, 0, 0, 4, 0, 0, 0, 4, 0, 0, 0);
+        Counted c = with(1, 0, 0, 0, 4, 0, 0, 0, 4, 0, 0, 0, 4, 0, 0, 0, 4, 0, 0, 0, 4, 0, 0, 0);
         c.board(0, 0, 8);
         c.iron(0, 12);
         for (int k = 1; k < 6; k++) c.change(k, 4, 1);
@@ -126,14 +84,14 @@ public final class PromisesTest {
         c.board(0, 0, 7);
         due(3, "copper by 29", c.thingOf(0, 7), 0);
 
-        IronedFlat w = with(4, 0, 0, 0, 5, 0, 0, 0);
+        Counted w = with(4, 0, 0, 0, 5, 0, 0, 0);
         int[] linen = {0, 1, 2, 0, 1};
         for (int i = 0; i < 5; i++) {
             due(3, "linen swells by WASH " + i, w.thingOf(0, 5), linen[i]);
             due(3, "field swells by WASH " + i, w.thingOf(1, 5), linen[i] + 1);
             w.wash();
         }
-        IronedFlat h = with(3, 0, 0, 0);
+        Counted h = with(3, 0, 0, 0);
         h.iron(0, 0);
         due(3, "hat swells by 0 at SIGH 0", h.thingOf(0, 5), 0);
         h.remake(0, 2);
@@ -146,7 +104,7 @@ public final class PromisesTest {
     }
 
     private static void changes() {
-        IronedFlat x = with(2, 30, 3, 1);
+        Counted x = with(2, 30, 3, 1);
         due(4, "BULK", x.change(0, 1, 99), 30);
         due(4, "CREASE", x.change(0, 2, 9), 3);
         due(4, "BOARD", x.change(0, 3, 5), 1);
@@ -171,7 +129,7 @@ public final class PromisesTest {
     }
 
     private static void ironsAndBoards() {
-        IronedFlat x = new IronedFlat();
+        Counted x = new Counted();
         due(6, "IRON of 15", x.iron(15, 15), 9);
         due(6, "again", x.iron(15, 0), 15);
         due(6, "IRON of 0", x.iron(0, 7), 9);
@@ -195,7 +153,7 @@ public final class PromisesTest {
     }
 
     private static void endsAndState() {
-        IronedFlat x = with(2, 20, 0, 0, 4, 10, 0, 1);
+        Counted x = with(2, 20, 0, 0, 4, 10, 0, 1);
         due(9, "what it was", x.ends(16), 12);
         refused(9, BAD, x, new int[] {-1, 0, 17, LOW, HIGH}, x::ends);
         for (int i = 0; i < 3; i++) x.wash();
@@ -223,7 +181,7 @@ public final class PromisesTest {
         due(10, "END stays", x.state(1), 4);
         due(11, "BULK of all", x.state(6), 33);
 
-        IronedFlat y = new IronedFlat();
+        Counted y = new Counted();
         y.ends(16);
         for (int i = 0; i < 16; i++) y.wash();
         due(11, "WASH is 16", y.state(0), 16);
@@ -233,7 +191,7 @@ public final class PromisesTest {
     }
 
     private static void tape() {
-        IronedFlat x = new IronedFlat();
+        Counted x = new Counted();
         due(12, "one byte", x.feed(0x0101010101010120L, 1), 1);
         due(12, "eight", x.feed(0x2020202020202020L, 8), 9);
         refused(12, BAD, x, new int[] {-1, 0, 9, LOW, HIGH}, v -> x.feed(0, v));
@@ -277,7 +235,7 @@ public final class PromisesTest {
         };
         due(13, "texts and answers", texts.length, answers.length);
         for (int i = 0; i < texts.length; i++) {
-            IronedFlat x = new IronedFlat();
+            Counted x = new Counted();
             rules(x, "thing fold;thing fold;thing fold;");
             due(13, "'" + texts[i] + "'", rules(x, texts[i]), answers[i]);
             due(13, "RULES behind '" + texts[i] + "'", x.many(1), answers[i] < 0 ? 3 : answers[i]);
@@ -286,7 +244,7 @@ public final class PromisesTest {
     }
 
     private static void wills() {
-        IronedFlat x = with(1, 30, 3, 0, 2, 40, 2, 1, 3, 41, 2, 1, 4, 42, 2, 0, 5, 43, 9, 0);
+        Counted x = with(1, 30, 3, 0, 2, 40, 2, 1, 3, 41, 2, 1, 4, 42, 2, 0, 5, 43, 9, 0);
         Object[][] told = {
             // a text, and each one's WILL as a digit
             {"thing leave;", "11111"},
@@ -325,7 +283,7 @@ public final class PromisesTest {
 
     private static void washes() {
         // Two coats on board 0 (WEIGHT 0), STEAM 2: NEEDS 2 + 4 and 4 + 1 + 4.
-        IronedFlat x = with(2, 12, 0, 0, 2, 24, 1, 0);
+        Counted x = with(2, 12, 0, 0, 2, 24, 1, 0);
         due(14, "the least is pressed, 5 and 1 FLAT", x.wash(), 6);
         due(14, "the other swells by 4", x.thingOf(1, 1), 28);
         due(14, "BULK of the FLAT one", x.thingOf(0, 1), 0);
@@ -348,7 +306,7 @@ public final class PromisesTest {
         x.ends(6);
         refused(14, STATE, x, new int[] {0, 0}, v -> x.wash());
 
-        IronedFlat y = with(2, 12, 0, 0, 2, 24, 1, 0);
+        Counted y = with(2, 12, 0, 0, 2, 24, 1, 0);
         due(15, "none", y.on(0), 0);
         due(15, "one", y.on(1), 6);
         due(15, "two", y.on(2), 14);
@@ -361,7 +319,7 @@ public final class PromisesTest {
         y.wash();
         due(15, "OVER", y.on(16), 0);
 
-        IronedFlat z = with(2, 12, 0, 0, 2, 24, 1, 0, 1, 0, 0, 1);
+        Counted z = with(2, 12, 0, 0, 2, 24, 1, 0, 1, 0, 0, 1);
         due(16, "at once", z.when(0), 0);
         due(16, "then", z.when(1), 1);
         due(16, "never", z.when(2), NONE);
@@ -374,7 +332,7 @@ public final class PromisesTest {
     }
 
     private static void folds() {
-        IronedFlat x = with(2, 8, 8, 0);
+        Counted x = with(2, 8, 8, 0);
         rules(x, "thing fold;");
         due(14, "THE REST tells none that folds", x.on(16), 0);
         due(14, "nor does a WASH", x.wash(), 0);
@@ -408,7 +366,7 @@ public final class PromisesTest {
 
     private static void bestCreaseAndBoard() {
         // A coat of BULK 12 by STEAM 2 in WASH 0 alone: it NEEDS 6 and CREASE, PRESS is 8 there.
-        IronedFlat x = with(2, 12, 9, 0);
+        Counted x = with(2, 12, 9, 0);
         for (int w = 1; w < 12; w++) x.iron(w, 1);
         due(17, "0 to 2 are the same, the least", x.creaseFor(0), 0);
         due(17, "nothing is changed", x.thingOf(0, 2), 9);
@@ -416,7 +374,7 @@ public final class PromisesTest {
         due(17, "all do", x.creaseFor(0), 0);
         refused(17, BAD, x, new int[] {-1, 1, LOW, HIGH}, x::creaseFor);
         // Ahead of WASH 4 it swells to 28, and to 36 ahead of WASH 6: pressed then it PAYS 7, at once 5.
-        IronedFlat y = with(2, 12, 0, 0);
+        Counted y = with(2, 12, 0, 0);
         y.ends(7);
         for (int w = 0; w < 7; w++) y.iron(w, 1);
         y.iron(0, 9);
@@ -430,7 +388,7 @@ public final class PromisesTest {
         due(17, "still the least", y.creaseFor(0), 0);
         creaseKeepsTillWorthMore();
 
-        IronedFlat b = with(2, 40, 9, 0);
+        Counted b = with(2, 40, 9, 0);
         due(18, "no board does: the least", b.boardFor(0), 0);
         b.board(3, 0, 9);
         b.board(5, 0, 9);
@@ -446,7 +404,7 @@ public final class PromisesTest {
     /** More CREASE may be better: pressed too early it is undone, and so is another. */
     private static void creaseKeepsTillWorthMore() {
         // WASH 0: STEAM 2; WASH 1: STEAM 3; END 2. A coat that swells by 8 in WASH 0 (SIGH 3).
-        IronedFlat x = with(2, 40, 0, 0);
+        Counted x = with(2, 40, 0, 0);
         x.ends(2);
         x.iron(0, 11);
         x.iron(1, 14);
@@ -457,7 +415,7 @@ public final class PromisesTest {
         due(15, "twice", x.on(16), 12);
         due(17, "CREASE 0 to 2 let it be pressed twice", x.creaseFor(0), 0);
         // A field: CREASE 0 is pressed at once for 4 + 24 / 12; with a later one it has swollen (its number is 5).
-        IronedFlat y = with(1, 0, 0, 1, 1, 0, 0, 1, 1, 0, 0, 1, 1, 0, 0, 1, 1, 0, 0, 1, 5, 91, 0, 0);
+        Counted y = with(1, 0, 0, 1, 1, 0, 0, 1, 1, 0, 0, 1, 1, 0, 0, 1, 1, 0, 0, 1, 5, 91, 0, 0);
         y.ends(2);
         y.iron(0, 5);
         y.iron(1, 9);
@@ -473,7 +431,7 @@ public final class PromisesTest {
     }
 
     private static void fatLeastLeft() {
-        IronedFlat x = with(2, 50, 9, 0, 1, 60, 0, 1, 1, 59, 0, 1);
+        Counted x = with(2, 50, 9, 0, 1, 60, 0, 1, 1, 59, 0, 1);
         due(19, "50, 54, 58, 62", x.fat(0), 3);
         due(19, "60 now", x.fat(1), 0);
         due(19, "never", x.fat(2), NONE);
@@ -492,7 +450,7 @@ public final class PromisesTest {
         due(19, "pressed ahead of that", x.fat(0), NONE);
 
         // A coat of BULK 36, CREASE 1 NEEDS 11; board 1 has WEIGHT 3.
-        IronedFlat y = with(2, 36, 1, 0, 2, 36, 1, 1, 1, 0, 0, 1, 4, 0, 0, 2);
+        Counted y = with(2, 36, 1, 0, 2, 36, 1, 1, 1, 0, 0, 1, 4, 0, 0, 2);
         y.board(1, 0, 3);
         due(20, "PRESS 12", y.least(0), 3);
         due(20, "PRESS 11", y.least(1), 2);
@@ -504,7 +462,7 @@ public final class PromisesTest {
         due(20, "it is FLAT", y.least(1), NONE);
         refused(20, BAD, y, new int[] {-1, 4, LOW, HIGH}, y::least);
 
-        IronedFlat z = with(2, 12, 0, 0, 2, 24, 1, 0, 1, 7, 0, 1);
+        Counted z = with(2, 12, 0, 0, 2, 24, 1, 0, 1, 7, 0, 1);
         int[] bulk = {43, 35, 7, 7};
         int[] flat = {0, 1, 3, 3};
         for (int n = 0; n < 4; n++) {
@@ -518,10 +476,10 @@ public final class PromisesTest {
     }
 
     private static void piles() {
-        IronedFlat none = new IronedFlat();
+        Counted none = new Counted();
         due(22, "none", none.piles(-1), 0);
         // 0 and 3 by board 2, 3 and 1 by CREASE 7, 4 alone, 2 and 5 by CREASE 1.
-        IronedFlat x = with(1, 0, 4, 2, 1, 0, 7, 0, 1, 0, 1, 1, 1, 0, 7, 2, 1, 0, 9, 5, 1, 0, 1, 3);
+        Counted x = with(1, 0, 4, 2, 1, 0, 7, 0, 1, 0, 1, 1, 1, 0, 7, 2, 1, 0, 9, 5, 1, 0, 1, 3);
         int[] piles = {11, 11, 36, 11, 16, 36};
         due(22, "how many", x.piles(-1), 3);
         for (int k = 0; k < 6; k++) due(22, "of " + k, x.piles(k), piles[k]);
@@ -530,13 +488,13 @@ public final class PromisesTest {
         due(22, "0", x.piles(0), 1);
         due(22, "3 is FLAT", x.piles(3), 0);
         refused(22, BAD, x, new int[] {-2, 6, LOW, HIGH}, x::piles);
-        IronedFlat two = with(1, 0, 0, 0, 1, 0, 0, 0);
+        Counted two = with(1, 0, 0, 0, 1, 0, 0, 0);
         refused(22, BAD, two, new int[] {2, 5}, two::piles);
     }
 
     private static void plans() {
         // As in washes(): 6 for the first, 8 (or, the second first, 7 and then 7) for both, then 2 each.
-        IronedFlat x = with(2, 12, 0, 0, 2, 24, 0, 0, 1, 0, 0, 1);
+        Counted x = with(2, 12, 0, 0, 2, 24, 0, 0, 1, 0, 0, 1);
         // 0: NEEDS 6, PAYS 5. 1: NEEDS 8, PAYS 6. Left a WASH: 0 has 16 (NEEDS 6, PAYS 5), 1 has 28 (NEEDS 8, PAYS 6); with one FLAT PRESS is 10.
         due(23, "of none", x.best(0), 0);
         due(23, "of one", x.best(1), 7);
@@ -594,7 +552,7 @@ public final class PromisesTest {
     }
 
     private static void games() {
-        IronedFlat x = with(2, 12, 0, 0, 2, 24, 0, 0, 1, 0, 0, 1);
+        Counted x = with(2, 12, 0, 0, 2, 24, 0, 0, 1, 0, 0, 1);
         due(28, "of one", x.game(1), 7);
         due(29, "of one", x.play(1), 2);
         // The other one tells none that helps: 7 and 1; of 0 and then one it would be less.
@@ -613,7 +571,7 @@ public final class PromisesTest {
         due(29, "OVER", x.play(1), NONE);
         due(29, "BAD goes ahead", x.play(0), BAD);
         // The other one folds or leaves where it hurts: one who folds at SIGH 0 is WORTH 1, so it tells none.
-        IronedFlat y = with(2, 0, 0, 0);
+        Counted y = with(2, 0, 0, 0);
         due(29, "played without the VALUE being asked", y.play(4), 1);
         rules(y, "thing fold;");
         for (int w = 0; w < 12; w++) y.iron(w, 0);
@@ -622,7 +580,7 @@ public final class PromisesTest {
     }
 
     private static void strangers() {
-        IronedFlat x = new IronedFlat();
+        Counted x = new Counted();
         due(32, "all", x.lone(0), 500);
         due(32, "the least KIND", x.lone(1), 1);
         due(32, "the least CREASE", x.lone(2), 0);
@@ -688,7 +646,7 @@ public final class PromisesTest {
     }
 
     private static void lots() {
-        IronedFlat x = with(2, 12, 0, 0, 2, 24, 0, 0);
+        Counted x = with(2, 12, 0, 0, 2, 24, 0, 0);
         due(34, "z was 1", x.seed(-5), 1);
         due(34, "z was -5", x.seed(77), -5);
         // 77 becomes 3366307586 without a sign; that is 51365 times 65536 and a rest; 51365 leaves 2 by 3.
@@ -702,7 +660,7 @@ public final class PromisesTest {
         x.ends(1);
         refused(35, STATE, x, new int[] {0, 0}, v -> x.lot());
 
-        IronedFlat y = with(2, 12, 0, 0);
+        Counted y = with(2, 12, 0, 0);
         y.ends(1);
         // One WASH: ACT 1 is WORTH 6, ACT 0 nothing.
         int told = 0;
@@ -726,7 +684,7 @@ public final class PromisesTest {
     }
 
     private static void rows() {
-        IronedFlat x = with(2, 12, 0, 0, 2, 24, 0, 0, 1, 0, 0, 1);
+        Counted x = with(2, 12, 0, 0, 2, 24, 0, 0, 1, 0, 0, 1);
         due(38, "none yet", x.row(0, 0), -9);
         due(40, "none yet", x.judge(), 0);
         due(37, "four", x.prove(4), 4);
@@ -770,7 +728,7 @@ public final class PromisesTest {
     }
 
     private static void sheets() {
-        IronedFlat x = with(2, 12, 0, 0, 2, 24, 0, 0);
+        Counted x = with(2, 12, 0, 0, 2, 24, 0, 0);
         refused(41, BAD, x, new int[] {-1, 4, LOW, HIGH}, v -> x.sheet(v, 0, 1));
         refused(41, BAD, x, new int[] {-2, 5, LOW, HIGH}, v -> x.sheet(0, v, 1));
         refused(41, BAD, x, new int[] {41, HIGH}, v -> x.sheet(0, 0, v));
@@ -808,7 +766,7 @@ public final class PromisesTest {
     }
 
     private static void actsOnSheets() {
-        IronedFlat x = with(2, 12, 0, 0, 2, 24, 0, 0);
+        Counted x = with(2, 12, 0, 0, 2, 24, 0, 0);
         x.sheet(0, 0, 5);
         x.sheet(1, 2, 5);
         int[] acts = {0, 3, 2, -1, 1};
@@ -853,7 +811,7 @@ public final class PromisesTest {
     }
 
     private static void shelves() {
-        IronedFlat x = new IronedFlat();
+        Counted x = new Counted();
         x.keep();
         for (int kind = 1; kind < 6; kind++) x.thing(kind, 0, 0, 0);
         x.sheet(0, 3, 7);
@@ -895,7 +853,7 @@ public final class PromisesTest {
         due(47, "there is again", x.taken(2, 0), 4);
     }
 
-    private static void trace(IronedFlat x, String what, int... bodies) {
+    private static void trace(Counted x, String what, int... bodies) {
         due(50, "bodies of " + what, x.many(6), bodies.length);
         for (int i = 0; i < bodies.length; i++) due(49, "body " + i + " of " + what, x.trace(i), bodies[i]);
         due(49, "behind the last of " + what, x.trace(bodies.length), NONE);
@@ -904,7 +862,7 @@ public final class PromisesTest {
 
     private static void acts() {
         // n: 0 to 4; a: 1, 1, 3, 0, 3.
-        IronedFlat x = with(1, 0, 0, 1, 2, 0, 0, 1, 3, 0, 0, 3, 4, 0, 0, 0, 5, 0, 0, 3);
+        Counted x = with(1, 0, 0, 1, 2, 0, 0, 1, 3, 0, 0, 3, 4, 0, 0, 0, 5, 0, 0, 3);
         for (int s = 0; s < 4; s++) x.shelf(s, 0, s);
         // copper 0, a 1: folds 60 ^ 23 = 43; airs 43 + 7; shares 10 / 1; stores 50 - 10.
         due(48, "copper folds", x.act(0, 0, 10), 43);
@@ -974,7 +932,7 @@ public final class PromisesTest {
     }
 
     private static void manyAndKept() {
-        IronedFlat x = with(2, 12, 0, 0, 2, 24, 0, 0);
+        Counted x = with(2, 12, 0, 0, 2, 24, 0, 0);
         rules(x, "hat leave; coat press;");
         x.report(1, 1, 1, 9);
         feed(x, "hat");
@@ -1037,7 +995,7 @@ public final class PromisesTest {
     }
 
     private static int lonesOfOne() {
-        IronedFlat x = new IronedFlat();
+        Counted x = new Counted();
         x.report(1, 1, 1, 9);
         return x.lone(0);
     }
@@ -1071,7 +1029,6 @@ public final class PromisesTest {
         shelves();
         acts();
         manyAndKept();
-        System.out.println("PromisesTest: " + asked + " answers, " + wrong + " of them wrong");
-        if (wrong != 0) System.exit(1);
+        done("PromisesTest");
     }
 }

@@ -30,13 +30,18 @@ class Told {
 
     /** What follows tests these sentences, each of which must stand in the document word for word. */
     static void says(String... sentences) {
-        closeHeading();
-        heading = String.join("\" and \"", sentences);
-        askedBelow = 0;
+        heads("\"" + String.join("\" and \"", sentences) + "\"");
         for (String sentence : sentences) {
             headings++;
             if (!DOCUMENT.contains(plain(sentence))) fail("the document doesn't say so");
         }
+    }
+
+    /** What follows is told under this heading, if it fails. */
+    static void heads(String text) {
+        closeHeading();
+        heading = text;
+        askedBelow = 0;
     }
 
     private static void closeHeading() {
@@ -45,7 +50,7 @@ class Told {
 
     private static void fail(String how) {
         wrong++;
-        System.out.println("\"" + heading + "\": " + how);
+        System.out.println(heading + ": " + how);
     }
 
     static void due(String what, long got, long want) {

@@ -279,7 +279,7 @@ public final class HostTest extends Told {
             x.shelf(3, 0, t[0]);
             actsOf(x, t);
         }
-        says("0, and no TRACE then: no such SHELF, act, nothing, a row.");
+        says("An ACT (0 to 3) of the thing on a SHELF, with x. 0, and no TRACE then: no such SHELF, act, nothing, a row.");
         x.sheet(0, 0, 9);
         x.shelf(1, 1, 0);
         int[][] none = {{-1, 0}, {4, 0}, {LOW, 3}, {HIGH, 3}, {3, -1}, {3, 4}, {3, LOW}, {3, HIGH}, {2, 0}, {1, 0}, {1, 3}};
@@ -290,6 +290,30 @@ public final class HostTest extends Told {
             due("no TRACE", x.many(6), 0);
             due("no TRACE", x.trace(0), NONE);
         }
+    }
+
+    private static void body(String sentence, Counted x, int[]... told) {
+        says(sentence);
+        for (int[] t : told) {
+            x.shelf(0, 0, t[0]);
+            due("act " + t[1] + " of THING " + t[0] + " with " + t[2], x.act(0, t[1], t[2]), t[3]);
+        }
+    }
+
+    private static void bodies() {
+        // n 0 to 4, a 1 to 5: so n - a + 2 is 1 for each. Of each the number, the ACT, x, and the answer.
+        Counted x = with(1, 0, 0, 1, 2, 0, 0, 2, 3, 0, 0, 3, 4, 0, 0, 4, 5, 0, 0, 5);
+        body("thing: 10 folds: x * 6 - 2 * n.", x, ints(3, 0, 5, 24), ints(3, 0, 0, -6), ints(4, 0, 0, -8), ints(1, 0, 1, 4), ints(3, 0, HIGH, -12), ints(3, 0, LOW, -6));
+        body("11 airs: folds(x) + 7 * a.", x, ints(3, 1, 5, 52), ints(3, 1, 0, 22), ints(0, 1, 4, 22), ints(0, 1, 0, 30));
+        body("12 shares: x / (n - a + 2)", x, ints(0, 2, 7, 7), ints(1, 2, -7, -7), ints(2, 2, LOW, LOW));
+        body("13 stores: airs(x) - shares(x).", x, ints(3, 3, 5, 39), ints(0, 3, 4, 18), ints(1, 3, 5, 79), ints(1, 3, 0, 24));
+        body("copper: 20 folds: super.folds(x) ^ 23.", x, ints(0, 0, 0, 23), ints(0, 0, 4, 15), ints(0, 0, -1, -19));
+        body("coat: 30 airs: super.airs(x) * 2.", x, ints(1, 1, 5, 84), ints(1, 1, 0, 24), ints(2, 1, 0, 142), ints(1, 1, LOW, 24));
+        body("linen: 40 shares: super.shares(x) + 8.", x, ints(3, 2, 5, 13), ints(3, 2, 0, 8), ints(3, 2, -5, 3), ints(3, 2, HIGH, LOW + 7));
+        body("hat: 50 folds: super.folds(x + 9).", x, ints(2, 0, 0, 50), ints(2, 0, -9, -4), ints(2, 0, HIGH, 44));
+        body("51 stores: super.stores(x) - airs(a).", x, ints(2, 3, 0, -36), ints(2, 3, 1, -25));
+        body("field: 60 airs: 0 - super.airs(x).", x, ints(4, 1, 0, -27), ints(4, 1, 10, -87));
+        body("61 shares: super.shares(x) ^ folds(n).", x, ints(4, 2, 0, 24), ints(4, 2, 8, 0), ints(4, 2, -9, -17));
     }
 
     /** The KINDS 1 to 5, and 5 again; BOARDS 1, 0, 5, 1, 3, 0. */
@@ -407,30 +431,34 @@ public final class HostTest extends Told {
         Counted none = with(1, 0, 0, 0);
         refused(NONE, none, v -> none.again());
         due("of no THINGS", new Counted().keep(), 1);
-        Counted x = with(4, 30, 3, 1, 2, 40, 9, 2);
+        Counted x = with(4, 30, 3, 1, 2, 40, 9, 2, 1, 10, 1, 3, 1, 11, 2, 4, 3, 12, 3, 5, 2, 13, 4, 5);
         x.ends(9);
-        x.iron(3, 14);
-        x.board(2, 0, 5);
-        x.board(2, 1, 6);
+        allIrons(x, 14);
+        for (int f = 0; f < 6; f++) {
+            x.board(f, 0, 3);
+            x.board(f, 1, 6);
+        }
         rules(x, "coat fold;");
-        x.report(1, 0, 4, 90);
-        x.report(2, 1, 0, 1);
+        for (int i = 0; i < 5; i++) x.report(0, 0, 0, 99);
+        x.report(2, 1, 2, 2);
         x.wash();
         x.seed(99);
         due("kept", x.keep(), 1);
         String before = look(x);
         alterAll(x);
         due("all is altered", look(x).equals(before) ? 1 : 0, 0);
-        due("how many THINGS", x.again(), 2);
+        due("how many THINGS", x.again(), 6);
         due("as it was", look(x).equals(before) ? 1 : 0, 1);
-        due("the REPORTS are as they were", x.liar(), NONE);
-        alterAll(x);
-        due("it stays kept", x.again(), 2);
+        x.wash();
+        x.wash();
+        due("it stays kept", x.again(), 6);
         due("as it was", look(x).equals(before) ? 1 : 0, 1);
-        x.thing(1, 0, 0, 0);
-        x.keep();
-        x.thing(1, 0, 0, 0);
-        due("the latest", x.again(), 3);
+        Counted z = with(1, 0, 0, 0);
+        z.keep();
+        z.thing(1, 0, 0, 0);
+        z.keep();
+        z.thing(1, 0, 0, 0);
+        due("the latest", z.again(), 2);
         Counted y = new Counted();
         y.keep();
         y.thing(1, 0, 0, 0);
@@ -439,21 +467,24 @@ public final class HostTest extends Told {
     }
 
     private static void alterAll(Counted x) {
-        x.change(0, 1, 1);
-        x.change(0, 2, 1);
-        x.change(0, 3, 4);
-        x.change(0, 4, 0);
-        x.remake(1, 3);
-        x.thing(5, 5, 5, 5);
-        x.iron(3, 0);
-        x.board(2, 0, 9);
-        x.board(2, 1, 9);
+        for (int k = 0; k < 6; k++) {
+            x.change(k, 1, 1);
+            x.change(k, 2, 8);
+            x.change(k, 3, 0);
+            x.change(k, 4, 1);
+            x.remake(k, 5);
+        }
+        allIrons(x, 0);
+        for (int f = 0; f < 6; f++) {
+            x.board(f, 0, 9);
+            x.board(f, 1, 9);
+        }
         x.ends(16);
         rules(x, "thing leave; hat press;");
         x.forget();
-        x.report(5, 0, 7, 8);
-        x.lot();
+        for (int i = 0; i < 6; i++) x.report(5, 0, 7, 8);
         x.wash();
+        x.lot();
     }
 
     private static void notKept() {
@@ -487,6 +518,7 @@ public final class HostTest extends Told {
         wouldBe();
         shelves();
         taken();
+        bodies();
         acts();
         partedByZero();
         traces();

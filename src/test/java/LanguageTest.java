@@ -74,8 +74,8 @@ public final class LanguageTest {
         for (int i = 0; i < source.length(); i++) need(source.charAt(i) < 128, "a sign beyond 127 at " + i);
         String code = source.replaceAll("(?s)/\\*.*?\\*/", "").replaceAll("//[^\n]*", "").replaceAll("\"[^\"\n]*\"", "\"\"");
         String[] barred = {"throw", "throws", "try", "catch", "finally", "synchronized", "assert", "volatile", "native", "Object", "Exception",
-            "hashCode", "toString", "getClass", "Random", "Thread", "System\\.(?!arraycopy)", "->", "::", "\\w+Exact", "package", "protected",
-            "var", "double", "float", "Double", "Float", "StringBuilder", "import (?!java\\.util\\.Arrays;)", "Arrays\\.(?!fill|copyOf)", "static \\{", "@\\w+"};
+            "hashCode", "getClass", "String toString\\(", "boolean equals\\(", "Random", "Thread", "System\\.(?!arraycopy)", "->", "::", "\\w+Exact", "package", "protected",
+            "var", "Double", "Float", "Math\\.random", "import (?!java\\.util\\.(Arrays|ArrayList|List|Iterator);)", "Arrays\\.(?!fill|copyOf)", "static \\{", "@(?!Override)\\w+"};
         for (String b : barred) {
             Matcher m = Pattern.compile(b.matches("\\w+") ? "\\b" + b + "\\b" : b).matcher(code);
             need(!m.find(), "the source holds " + b);
@@ -125,7 +125,8 @@ public final class LanguageTest {
         made = bean.getThreadAllocatedBytes(Thread.currentThread().getId()) - before;
         need(made < 100_000, "480 dear calls take " + made + " bytes");
         before = bean.getThreadAllocatedBytes(Thread.currentThread().getId());
-        for (int i = 0; i < 512; i++) x.sheet(i % 4, i % 5, 40);
+        IronedFlat y = new IronedFlat();
+        for (int i = 0; i < 512; i++) y.sheet(i % 4, i % 5, 40);
         made = bean.getThreadAllocatedBytes(Thread.currentThread().getId()) - before;
         need(made < 200_000, "512 sheets take " + made + " bytes");
     }

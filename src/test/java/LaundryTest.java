@@ -112,6 +112,7 @@ public final class LaundryTest extends Told {
         for (int f = 0; f < 6; f++) {
             due("WEIGHT of " + f, x.board(f, 0, 9), 0);
             due("ROPE of " + f, x.board(f, 1, f), 0);
+            due("WEIGHT of " + f, x.boardOf(f, 0), 9);
         }
         for (int f = 0; f < 6; f++) {
             due("WEIGHT of " + f, x.board(f, 0, 0), 9);
@@ -562,6 +563,24 @@ public final class LaundryTest extends Told {
         due("the BOARD stays", y.thingOf(4, 3), 1);
     }
 
+    private static void washedOrOver() {
+        says("A WASH goes by as in THE REST: what it was WORTH. STATE: it is OVER.");
+        Counted x = with(1, 0, 0, 0, 4, 0, 0, 0, 4, 0, 0, 0);
+        x.ends(3);
+        due("the second is told: 4 and 1", x.wash(), 5);
+        due("the third is told: 4 and 2", x.wash(), 6);
+        due("none is told: 2", x.wash(), 2);
+        due("the two are FLAT", x.state(4), 6);
+        refused(STATE, x, v -> x.wash());
+        due("SCORE", x.state(2), 13);
+        x.ends(4);
+        due("it is not OVER any more", x.wash(), 2);
+        Counted last = new Counted();
+        last.ends(16);
+        for (int w = 0; w < 16; w++) due("WASH " + w + " of 16", last.wash(), 0);
+        refused(STATE, last, v -> last.wash());
+    }
+
     private static void changed() {
         says("FLAT (4: 0, 1; BULK stays) of a THING becomes v: what it was.");
         Counted x = with(2, 30, 3, 1, 2, 31, 4, 2);
@@ -569,6 +588,8 @@ public final class LaundryTest extends Told {
         due("again", x.change(1, 4, 1), 1);
         due("BULK stays", x.thingOf(1, 1), 31);
         due("FLAT ones", x.state(4), 2);
+        due("it is so", x.thingOf(1, 4), 1);
+        due("the other isn't", x.thingOf(0, 4), 0);
         due("how many", x.many(2), 1);
         due("no more", x.change(1, 4, 0), 1);
         due("BULK stays", x.thingOf(1, 1), 31);
@@ -654,6 +675,7 @@ public final class LaundryTest extends Told {
         undone();
         flatOnesAreWorth();
         bulkBehind();
+        washedOrOver();
         changed();
         anewAndState();
         done("LaundryTest");

@@ -77,6 +77,11 @@ public final class PlansTest extends Told {
         due("but at SIGH 1", copper.best(4), 3);
         due("there it may be told or not", copper.ways(4), 2);
         first(copper, 4, 1, 0, 1, 1);
+        Counted anew = linen(2);
+        first(anew, 2, 1, 2);
+        anew.remake(0, 1);
+        anew.remake(1, 1);
+        first(anew, 2, 0, 0);
         // To wait is worth more: STEAM 0 in WASH 0, in WASH 1 linen of 48 PAYS 8; in WASH 0 only that of 0 PAYS.
         Counted wait = with(2, 0, 0, 0, 4, 47, 0, 0);
         irons(wait, 0, 4);
@@ -263,6 +268,8 @@ public final class PlansTest extends Told {
         due("BAD goes ahead of NONE", x.play(0), BAD);
         due("BAD goes ahead of NONE", x.play(5), BAD);
 
+        due("play(1) ahead of any game(1)", linen(2).play(1), 1);
+        due("play(1) of what PAYS nothing yet but in the second", secondAlone().play(1), 2);
         Counted none = new Counted();
         due("no THINGS: game(4)", none.game(4), 0);
         due("no THINGS: play(4)", none.play(4), 0);
@@ -270,6 +277,10 @@ public final class PlansTest extends Told {
         due("nothing helps", copper.game(3), 0);
         due("so the least ACT", copper.play(3), 0);
         otherOneHurts();
+    }
+
+    private static Counted secondAlone() {
+        return with(1, 0, 0, 0, 4, 0, 0, 0);
     }
 
     private static void otherOneHurts() {

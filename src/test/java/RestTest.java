@@ -20,6 +20,13 @@ public final class RestTest extends Told {
         Counted none = new Counted();
         due("no THINGS: nothing", none.wash(), 0);
         due("no THINGS: nothing", none.on(16), 0);
+        // The sixth: a coat of CREASE 9 NEEDS 13; of CREASE 5, on a BOARD of WEIGHT 1, 9.
+        Counted six = with(1, 0, 0, 0, 1, 0, 0, 0, 1, 0, 0, 0, 1, 0, 0, 0, 1, 0, 0, 0, 2, 0, 9, 5);
+        six.board(5, 0, 1);
+        due("the sixth isn't pressed", six.on(16), 0);
+        six.change(5, 2, 5);
+        due("the sixth is", six.on(1), 5);
+        due("the sixth is", six.when(5), 0);
     }
 
     private static void on() {
@@ -99,6 +106,10 @@ public final class RestTest extends Told {
         x.ends(1);
         x.wash();
         due("it is OVER: the least", x.creaseFor(0), 0);
+        Counted last = with(4, 0, 0, 0);
+        last.ends(16);
+        rules(last, "linen if wash < 15 or crease < 3 leave;");
+        due("WASH 15 counts", last.creaseFor(0), 3);
         // One WASH: a coat of BULK 0 PAYS 4 up to CREASE 4, and then the linen that PAYS 8 isn't told.
         Counted y = with(2, 0, 0, 0, 4, 48, 0, 0);
         y.ends(1);
@@ -132,6 +143,13 @@ public final class RestTest extends Told {
         due("a third of 2 is none", y.boardFor(0), 1);
         y.board(1, 1, 3);
         due("a third of 3 is 1", y.boardFor(0), 5);
+        Counted last = with(2, 0, 9, 0);
+        last.ends(16);
+        allIrons(last, 0);
+        last.iron(15, 12);
+        last.board(4, 0, 7);
+        // BULK is 30 ahead of WASH 15: it NEEDS 18.
+        due("WASH 15 counts", last.boardFor(0), 4);
         // By what is FLAT there: a coat of CREASE 6 NEEDS 10.
         Counted z = with(4, 0, 0, 4, 2, 0, 6, 0);
         z.ends(1);
@@ -175,6 +193,13 @@ public final class RestTest extends Told {
         due("FLAT, but BULK 60", y.fat(1), 0);
         y.change(1, 1, 59);
         due("FLAT, BULK is 0 behind a WASH", y.fat(1), NONE);
+        // 4 a WASH, but 2 in the first: 58 behind 15, 62 behind 16.
+        Counted last = with(2, 0, 9, 0);
+        last.ends(16);
+        last.iron(0, 8);
+        due("behind WASH 15", last.fat(0), 16);
+        last.ends(15);
+        due("it is OVER", last.fat(0), NONE);
         // Undone: 25 and 8, then 8 more a WASH: 33, 41, 49, 57, 65.
         Counted z = with(2, 0, 9, 0);
         allIrons(z, 3);
@@ -216,6 +241,9 @@ public final class RestTest extends Told {
         x.change(0, 1, 12);
         due("BULK counts: it NEEDS 11", x.least(0), 3);
         refused(BAD, x, ints(-1, 3, LOW, HIGH), x::least);
+        x.change(2, 4, 0);
+        x.board(2, 0, 9);
+        due("0 is the least STEAM, whatever the WEIGHT", x.least(2), 0);
         Counted y = with(1, 0, 0, 0, 1, 0, 0, 0, 1, 0, 0, 0, 1, 0, 0, 0, 1, 0, 0, 0, 1, 0, 0, 0);
         y.board(0, 0, 9);
         for (int k = 1; k < 6; k++) y.change(k, 4, 1);
@@ -282,6 +310,10 @@ public final class RestTest extends Told {
         due("the others", y.piles(1), 62);
         y.change(0, 2, 1);
         due("CREASED as the last", y.piles(0), 63);
+        // Two by turns: 0, 2, 4 on BOARD 0, 1, 3, 5 on BOARD 1.
+        Counted turns = with(1, 0, 0, 0, 1, 0, 1, 1, 1, 0, 2, 0, 1, 0, 3, 1, 1, 0, 4, 0, 1, 0, 5, 1);
+        due("two", turns.piles(-1), 2);
+        for (int k = 0; k < 6; k++) due("of " + k, turns.piles(k), k % 2 == 0 ? 21 : 42);
         // BULK and KIND don't count.
         Counted z = with(1, 7, 0, 0, 1, 7, 1, 1, 1, 7, 2, 2, 1, 7, 3, 3, 1, 7, 4, 4, 1, 7, 5, 5);
         due("six alone", z.piles(-1), 6);

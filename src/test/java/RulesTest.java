@@ -141,14 +141,14 @@ public final class RulesTest extends Told {
             "thing if number ^", "thing if 1<^", "thing if 1= ^", "thing if wash >^", "thing if 1=1^", "thing if 1=1 ^", "thing if 1=1 and^", "thing if 1=1 or ^",
             "thing if (1=1^", "thing if (1=1)^", "thing if ((1=1)^", "thing if 1=1 leave^", "thing if 1=1 fold ^");
         faultAt("thing leave" + " ".repeat(189) + "^");
-        faultAt(" ".repeat(195) + "thing^");
+        faultAt(" ".repeat(195) + "thing^", " ".repeat(196) + "^thin", " ".repeat(199) + "^t", "thing leave; " + " ".repeat(184) + "^cop");
         // What begins like a NAME but is none, is the FAULT itself, though more might have come.
         faultAt("^thin", "^t", "thing ^leav", "thing ^i", "thing if ^was", "thing if ^no", "thing if 1=1 ^an", "thing if 1=1 ^o");
     }
 
     private static void namesAndNumbers() {
         says("NAMES are rows of letters a to z, NUMBERS rows of digits (1 to 4), both as long as they go");
-        faultAt("^thingleave;", "^things leave;", "^athing leave;", "^thin g leave;", "thing ^leaveleave;", "thing ^ifwash=1 leave;", "thing if ^notwash=1 leave;",
+        faultAt("^thingleave;", "^thingz leave;", "thing ^leavez;", "thing if ^washz=1 leave;", "^zhat leave;", "^things leave;", "^athing leave;", "^thin g leave;", "thing ^leaveleave;", "thing ^ifwash=1 leave;", "thing if ^notwash=1 leave;",
             "thing if ^washwash=1 leave;", "thing if 1=1 ^andwash=1 leave;", "thing if 1=1 ^orwash=1 leave;", "thing if 1 ^2=1 leave;", "thing if 1=1 ^2 leave;",
             "^Thing leave;", "^tHing leave;", "thing ^LEAVE;", "thing ^leavE;", "thing if 1=1 ^anD 2=2 leave;");
         says("(a NUMBER of more digits, the fourth \"(\", the first NAME of the ninth RULE, too)");

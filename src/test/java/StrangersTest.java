@@ -58,6 +58,10 @@ public final class StrangersTest extends Told {
         lone(x, 40, 2, 0, 0);
         x.report(0, 0, 45, 45);
         lone(x, 30, 3, 0, 45);
+        // Copper of 18 has 18 always; coats of none, hats and linen and fields of 3 would have.
+        x.forget();
+        x.report(15, 0, 18, 18);
+        lone(x, 10, 1, 0, 18);
         // Behind 3 WASHES: coats 12, hats 3, linen and fields of number 0: 0 and 1 and 2.
         x.forget();
         x.report(3, 0, 3, 3);
@@ -68,6 +72,7 @@ public final class StrangersTest extends Told {
     }
 
     private static void nothingElseCounts() {
+        says("Those that FIT: by which each REPORT is so, by IRONS as they are.", "on a BOARD of WEIGHT 0, ROPE 0, where nothing is FLAT, told nothing.");
         // The laundry's own doesn't count: WASH, END, BOARDS, THINGS, RULES.
         Counted x = with(4, 0, 0, 0, 2, 99, 9, 1);
         x.report(3, 0, 12, 12);
@@ -184,6 +189,23 @@ public final class StrangersTest extends Told {
         due("of two the least", x.liar(), 1);
         x.report(0, 0, 18, 18);
         due("now the second alone", x.liar(), 1);
+        for (int low = 9; low <= 18; low += 9) {
+            x.forget();
+            x.report(0, 0, low, low);
+            x.report(0, 0, 27 - low, 27 - low);
+            due("of two the least, whichever way", x.liar(), 0);
+        }
+        // Coats of BULK 0 by their CREASE PAY in 8, 6, 5, 3, 2, and no WASHES.
+        x.forget();
+        x.report(0, 0, 0, 0);
+        x.report(15, 0, 60, 60);
+        x.report(15, 1, 5, 5);
+        lone(x, 1, 2, 2, 0);
+        due("one FITS", x.liar(), NONE);
+        x.forget();
+        x.report(0, 0, 18, 18);
+        x.report(0, 0, 18, 18);
+        x.report(0, 0, 9, 9);
         x.report(0, 0, 9, 9);
         due("two against two", x.liar(), NONE);
         x.forget();

@@ -50,6 +50,21 @@ public final class TermsTest extends Told {
         due("2 - 4 + 2 is 0", x.act(0, 2, 1), -15);
     }
 
+    private static void newObject() {
+        says("No THINGS, RULES, REPORTS; nothing is kept.");
+        Counted x = new Counted();
+        due("THINGS", x.many(0), 0);
+        due("no first THING", x.thingOf(0, 0), BAD);
+        due("RULES", x.many(1), 0);
+        due("REPORTS", x.many(3), 0);
+        due("REPORTS", x.forget(), 0);
+        refused(NONE, x, v -> x.again());
+        due("bytes of THE TAPE", x.many(5), 0);
+        due("ROWS", x.many(4), 0);
+        due("bodies of THE TRACE", x.many(6), 0);
+        due("each has its own", with(1, 0, 0, 0).many(0) + new Counted().many(0), 1);
+    }
+
     private static void theFirstNamed() {
         says("of several the first named");
         Counted six = with(1, 0, 0, 0, 1, 0, 0, 0, 1, 0, 0, 0, 1, 0, 0, 0, 1, 0, 0, 0, 1, 0, 0, 0);
@@ -339,6 +354,7 @@ public final class TermsTest extends Told {
 
     public static void main(String[] args) {
         constants();
+        newObject();
         theFirstNamed();
         nothingIsChanged();
         asIfUnasked();

@@ -439,8 +439,9 @@ public final class HostTest extends Told {
             x.board(f, 1, 6);
         }
         rules(x, "coat fold;");
+        x.iron(0, 2);
         for (int i = 0; i < 5; i++) x.report(0, 0, 0, 99);
-        x.report(2, 1, 2, 2);
+        x.report(2, 1, 1, 1);
         x.wash();
         x.seed(99);
         due("kept", x.keep(), 1);

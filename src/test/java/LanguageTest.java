@@ -5,16 +5,27 @@ import java.lang.reflect.Method;
 import java.lang.reflect.Modifier;
 import java.nio.file.Files;
 import java.nio.file.Path;
+import java.util.ArrayList;
+import java.util.Arrays;
 import java.util.List;
+import java.util.Map;
+import java.util.Set;
+import java.util.TreeMap;
 import java.util.TreeSet;
 import java.util.regex.Matcher;
 import java.util.regex.Pattern;
+import java.util.stream.Collectors;
 
-/** Those rules of ../shared/LANGUAGE.md that can be looked at from outside: the face, the words, the sizes, the room. */
+/** Those rules of ../shared/LANGUAGE.md that can be looked at from outside: the face, what is called, the words, the sizes, the room. */
 public final class LanguageTest {
-    private static final String FACE = "thing thingOf change remake iron board boardOf ends anew state feed rules wash on when creaseFor boardFor "
-        + "fat least left piles best ith ways note bars game play report forget lone liar seed lot times prove row alterRow judge "
-        + "sheet write item goAll wouldBe shelf taken act trace many keep again";
+    // As the document's code block has it, without the names of what is told.
+    private static final String FACE = "thing(int,int,int,int) thingOf(int,int) change(int,int,int) remake(int,int) iron(int,int) board(int,int,int) boardOf(int,int) ends(int) "
+        + "anew() state(int) feed(long,int) rules() wash() on(int) when(int) creaseFor(int) boardFor(int) fat(int) least(int) left(int,int) piles(int) "
+        + "best(int) ith(int,int) ways(int) note(int,int) bars(int,int) game(int) play(int) report(int,int,int,int) forget() lone(int) liar() seed(int) lot() times(int,int) "
+        + "prove(int) row(int,int) alterRow(int,int,int) judge() sheet(int,int,int) write(int,int,int) item(int,int,int) goAll(int,int,int) wouldBe(int,int,int) "
+        + "shelf(int,int,int) taken(int,int) act(int,int,int) trace(int) many(int) keep() again()";
+    private static final Set<String> NAMES = Set.of(FACE.replaceAll("\\([a-z,]*\\)", "").split(" "));
+    private static final int DEEPEST = 8;
     private static int wrong = 0;
 
     private static void need(boolean so, String what) {
@@ -25,48 +36,103 @@ public final class LanguageTest {
     }
 
     private static void face() {
+        Class<?> c = IronedFlat.class;
         TreeSet<String> due = new TreeSet<>(List.of(FACE.split(" ")));
         TreeSet<String> found = new TreeSet<>();
-        for (Method m : IronedFlat.class.getDeclaredMethods()) {
+        for (Method m : c.getDeclaredMethods()) {
             if (m.isSynthetic()) continue;
             if (Modifier.isPublic(m.getModifiers())) {
-                need(found.add(m.getName()), "two methods " + m.getName());
+                found.add(m.getName() + told(m.getParameterTypes()));
                 need(m.getReturnType() == int.class, m.getName() + " doesn't answer an int");
+                need(!Modifier.isStatic(m.getModifiers()), m.getName() + " is static");
             } else {
                 need(Modifier.isPrivate(m.getModifiers()), m.getName() + " is neither public nor private");
-                need(!due.contains(m.getName()), "a private method bears the name " + m.getName());
+                need(!NAMES.contains(m.getName()), "a private method bears the name " + m.getName());
             }
         }
         need(found.equals(due), "the public methods are " + found);
-        for (Constructor<?> c : IronedFlat.class.getConstructors()) need(c.getParameterCount() == 0, "a constructor with arguments");
-        TreeSet<String> constants = new TreeSet<>();
-        for (Field f : IronedFlat.class.getDeclaredFields()) {
-            if (Modifier.isPublic(f.getModifiers())) constants.add(f.getName());
-            else need(Modifier.isPrivate(f.getModifiers()), f.getName() + " is neither public nor private");
-        }
-        need(constants.equals(new TreeSet<>(List.of("BAD", "FULL", "NONE", "STATE"))), "the public constants are " + constants);
-        need(Modifier.isFinal(IronedFlat.class.getModifiers()), "the class is not final");
+        need(c.getDeclaredConstructors().length == 1 && c.getConstructors().length == 1, "not one constructor alone, or it is not public");
+        need(c.getConstructors()[0].getParameterCount() == 0, "the constructor is told something");
+        need(c.getModifiers() == (Modifier.PUBLIC | Modifier.FINAL), "the class is not public and final");
+        need(c.getSuperclass() == Object.class && c.getInterfaces().length == 0, "the class is under another one");
     }
 
-    private static void classesInside() {
-        Class<?>[] inside = IronedFlat.class.getDeclaredClasses();
-        need(inside.length < 12, "too many classes");
-        TreeSet<String> face = new TreeSet<>(List.of(FACE.split(" ")));
-        for (Class<?> c : inside) {
+    private static String told(Class<?>[] types) {
+        return Arrays.stream(types).map(Class::getName).collect(Collectors.joining(",", "(", ")"));
+    }
+
+    private static void constants() throws Exception {
+        TreeSet<String> found = new TreeSet<>();
+        for (Field f : IronedFlat.class.getDeclaredFields()) {
+            if (!Modifier.isPublic(f.getModifiers())) {
+                need(Modifier.isPrivate(f.getModifiers()), f.getName() + " is neither public nor private");
+                continue;
+            }
+            need(Modifier.isStatic(f.getModifiers()) && Modifier.isFinal(f.getModifiers()) && f.getType() == int.class, f.getName() + " is no constant int");
+            found.add(f.getName() + " = " + f.getInt(null));
+        }
+        need(found.equals(new TreeSet<>(List.of("BAD = -1", "FULL = -2", "NONE = -3", "STATE = -4"))), "the public constants are " + found);
+    }
+
+    private static List<Class<?>> classes() {
+        List<Class<?>> all = new ArrayList<>(List.of(IronedFlat.class.getDeclaredClasses()));
+        for (Class<?> c : all) {
             need(Modifier.isStatic(c.getModifiers()), c + " is not static");
             need(!Modifier.isPublic(c.getModifiers()) && !Modifier.isProtected(c.getModifiers()), c + " can be seen");
+            need(c.getDeclaredClasses().length == 0, c + " has classes inside");
+        }
+        all.add(IronedFlat.class);
+        need(all.size() <= 12, "too many classes");
+        return all;
+    }
+
+    private static void members() {
+        for (Class<?> c : classes()) {
             for (Method m : c.getDeclaredMethods()) {
-                need(m.isSynthetic() || !face.contains(m.getName()), c + " has a method " + m.getName());
+                need(c == IronedFlat.class || m.isSynthetic() || !NAMES.contains(m.getName()), c + " has a method " + m.getName());
                 need(m.getParameterCount() <= 7, m + " takes too much");
             }
+            for (Constructor<?> m : c.getDeclaredConstructors()) need(m.getParameterCount() <= 7, m + " takes too much");
             int fields = 0;
             for (Field f : c.getDeclaredFields()) {
                 boolean isStatic = Modifier.isStatic(f.getModifiers());
                 if (!isStatic) fields++;
                 need(!isStatic || Modifier.isFinal(f.getModifiers()), f + " is static and not final");
+                need(!isStatic || List.of("int", "long", "boolean", "char", "java.lang.String", "[I", "[J", "[C", "[B").contains(f.getType().getName()), f + " is static, and no constant");
             }
             need(fields <= 20, c + " has too many fields");
         }
+    }
+
+    /** What the compiled classes call: of the library nothing but what is listed, and of each other no more than eight deep. */
+    private static void calls() throws Exception {
+        Map<String, TreeSet<String>> calls = new TreeMap<>();
+        for (Class<?> c : classes()) {
+            ClassFile file = new ClassFile(c);
+            calls.putAll(file.calls);
+            for (String b : file.barred) need(false, b);
+        }
+        Pattern library = Pattern.compile("java\\.lang\\.(Object\\.<init>|String\\.(length|charAt)|System\\.arraycopy|(Integer|Math)\\.(?!\\w*Exact$)\\w+)|java\\.util\\.Arrays\\.(copyOf|copyOfRange|fill)");
+        for (String m : calls.keySet()) {
+            for (String called : calls.get(m)) need(calls.containsKey(called) || library.matcher(called).matches(), m + " calls " + called);
+        }
+        for (String name : NAMES) {
+            List<String> way = deepest("IronedFlat." + name, calls, new ArrayList<>());
+            need(way.size() <= DEEPEST, "deeper than " + DEEPEST + ": " + way);
+        }
+    }
+
+    // A method that is open already is not gone into again: recursion is not counted.
+    private static List<String> deepest(String from, Map<String, TreeSet<String>> calls, List<String> open) {
+        List<String> here = new ArrayList<>(open);
+        here.add(from);
+        List<String> best = here;
+        for (String called : calls.getOrDefault(from, new TreeSet<>())) {
+            if (!calls.containsKey(called) || here.contains(called)) continue;
+            List<String> way = deepest(called, calls, here);
+            if (way.size() > best.size()) best = way;
+        }
+        return best;
     }
 
     private static void words() throws Exception {
@@ -133,7 +199,9 @@ public final class LanguageTest {
 
     public static void main(String[] args) throws Exception {
         face();
-        classesInside();
+        constants();
+        members();
+        calls();
         words();
         methodLengths();
         room();
